@@ -72,6 +72,11 @@ public final class DebtsTest {
         FloodLent most = Check.with("river weeks 4 more 0 back 0; village pond 99 water 2 face 0 seep 0;"
             + "village pond 99 water 9 face 0 seep 0; crop 0 drinks 2 brings 4 from 1 to 1; loan 0 to 1 of 2 on 0 till 2;");
         Check.due("fair(0) by more than half", most.fair(0), 51);
+        // It would have 98 and BRINGS 102: the 100 that it lends must come back twice.
+        String hundred = "river weeks 4 more 0 back 0; village pond 300 water 100 face 0 seep 0;"
+            + "village pond 300 water 200 face 0 seep 0; crop 0 drinks 1 brings 51 from 1 to 1; loan 0 to 1 of 100 on 0 till 2;";
+        Check.due("fair(0) by all", Check.with(hundred + "crop 0 drinks 1 brings 51 from 1 to 1;").fair(0), 100);
+        Check.due("fair(0) by none", Check.with(hundred + "crop 0 drinks 1 brings 52 from 1 to 1;").fair(0), -1);
     }
 
     private static void more() {

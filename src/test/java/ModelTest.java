@@ -3,7 +3,7 @@ import java.util.Random;
 
 /** Runs of calls on FloodLent and on the Model: each answer must be the same. */
 public final class ModelTest {
-    private static final int RUNS = 900;
+    private static final int RUNS = 2000;
     private static final int CALLS = 120;
 
     private final Random random;
@@ -51,31 +51,41 @@ public final class ModelTest {
     // ---- texts
 
     private String text() {
+        switch (random.nextInt(6)) {
+            case 0: return text(true, false);
+            case 1: return text(true, true);
+            default: return text(false, false);
+        }
+    }
+
+    /** In a mild PLAIN little is lost or lent; in a waiting one crops need FLOODS ahead of what seeps down to them. */
+    private String text(boolean mild, boolean waiting) {
         StringBuilder s = new StringBuilder();
         boolean wide = random.nextInt(8) == 0;
-        // In a mild PLAIN much is given back, so that BEST and LAWS have something to choose from.
-        boolean mild = random.nextInt(3) == 0;
         int most = wide ? 400 : random.nextInt(3) == 0 ? 120 : 40;
         weeks = random.nextInt(6) == 0 ? any(4, 30) : any(4, 9);
         villages = random.nextInt(10) == 0 ? any(0, 6) : any(1, 4);
-        floods = any(0, 3);
-        s.append("river weeks ").append(weeks).append(" more ").append(mild ? any(0, 5) : random.nextInt(4) == 0 ? any(0, 100) : any(0, 30));
-        s.append(" back ").append(random.nextInt(3) == 0 ? any(0, weeks - 1) : weeks - 1 - any(0, 2)).append(";");
+        floods = any(waiting ? 1 : 0, 3);
+        s.append("river weeks ").append(weeks).append(" more ");
+        s.append(mild ? any(0, 5) : random.nextInt(4) == 0 ? any(0, 100) : any(0, 30));
+        s.append(" back ").append(random.nextInt(3) == 0 && !waiting ? any(0, weeks - 1) : weeks - 1 - any(0, 2)).append(";");
         for (int v = 0; v < villages; v++) {
             int pond = any(mild ? most / 2 : 0, most);
-            s.append("village pond ").append(pond).append(" water ").append(any(0, pond)).append(" face ")
-                .append(any(0, 40)).append(" seep ").append(any(0, mild ? 1 : random.nextBoolean() ? 3 : 12)).append(";\n");
+            int water = waiting ? v == 0 ? pond : any(0, Math.min(pond, 5)) : any(0, pond);
+            int seep = waiting ? v + 1 < villages ? any(5, 12) : 0 : any(0, mild ? 1 : random.nextBoolean() ? 3 : 12);
+            s.append("village pond ").append(pond).append(" water ").append(water).append(" face ")
+                .append(any(0, 40)).append(" seep ").append(seep).append(";\n");
         }
         for (int f = 0; f < floods; f++) {
-            s.append("flood ").append(any(0, weeks - 1)).append(" brings ").append(any(0, mild ? 12 : most)).append(" odds ")
-                .append(random.nextInt(4) == 0 ? 100 * any(0, 1) : any(0, 100)).append(";");
+            s.append("flood ").append(any(0, waiting ? 1 : weeks - 1)).append(" brings ").append(any(0, mild ? 12 : most))
+                .append(" odds ").append(random.nextInt(4) == 0 ? 100 * any(0, 1) : any(0, 100)).append(";");
         }
         for (int c = any(0, 5); c > 0 && villages > 0; c--) {
-            int from = any(0, weeks - 1);
-            s.append("crop ").append(any(0, villages - 1)).append(" drinks ").append(any(1, 9)).append(" brings ")
-                .append(any(0, 20)).append(" from ").append(from).append(" to ").append(any(from, weeks - 1)).append("; ");
+            int from = any(0, waiting ? 1 : weeks - 1);
+            s.append("crop ").append(any(0, villages - 1)).append(" drinks ").append(any(1, 9)).append(" brings ");
+            s.append(any(0, 20)).append(" from ").append(from).append(" to ").append(waiting ? from : any(from, weeks - 1)).append("; ");
         }
-        for (int l = mild ? any(0, 2) : any(0, 8); l > 0 && villages > 1; l--) {
+        for (int l = waiting ? 0 : mild ? any(0, 2) : any(0, 8); l > 0 && villages > 1; l--) {
             int lender = any(0, villages - 1);
             int debtor = (lender + any(1, villages - 1)) % villages;
             int on = any(0, weeks - 2);
@@ -151,13 +161,15 @@ public final class ModelTest {
                 due("count(" + k + ")", x.count(k), m.count(k));
             }
         }
-        switch (random.nextInt(6)) {
-            case 0 -> change();
-            case 1 -> askYear();
-            case 2 -> askDebts();
-            case 3 -> askMarks();
-            case 4 -> askRest();
-            default -> askTakers();
+        for (int k = 0; k < 3; k++) {
+            switch (random.nextInt(9)) {
+                case 0 -> change();
+                case 1, 2, 3 -> askYear();
+                case 4, 5 -> askDebts();
+                case 6 -> askMarks();
+                case 7 -> askRest();
+                default -> askTakers();
+            }
         }
     }
 
@@ -182,15 +194,17 @@ public final class ModelTest {
         int l = one(8);
         int what = one(5);
         int sum = one(9);
-        due("village(" + v + ", " + what + ")", x.village(v, what), m.village(v, what));
-        due("water(" + v + ", " + w + ")", x.water(v, w), m.water(v, w));
-        due("flood(" + f + ", " + what + ")", x.flood(f, what), m.flood(f, what));
-        due("loan(" + l + ", " + what + ")", x.loan(l, what), m.loan(l, what));
-        due("crop(" + l + ", " + what + ")", x.crop(l, what), m.crop(l, what));
-        due("sum(" + sum + ")", x.sum(sum), m.sum(sum));
-        due("first()", x.first(), m.first());
-        due("count(" + sum + ")", x.count(sum), m.count(sum));
-        due("fault(" + what + ")", x.fault(what), m.fault(what));
+        switch (random.nextInt(9)) {
+            case 0 -> due("village(" + v + ", " + what + ")", x.village(v, what), m.village(v, what));
+            case 1 -> due("water(" + v + ", " + w + ")", x.water(v, w), m.water(v, w));
+            case 2 -> due("flood(" + f + ", " + what + ")", x.flood(f, what), m.flood(f, what));
+            case 3 -> due("loan(" + l + ", " + what + ")", x.loan(l, what), m.loan(l, what));
+            case 4 -> due("crop(" + l + ", " + what + ")", x.crop(l, what), m.crop(l, what));
+            case 5 -> due("sum(" + sum + ")", x.sum(sum), m.sum(sum));
+            case 6 -> due("first()", x.first(), m.first());
+            case 7 -> due("count(" + sum + ")", x.count(sum), m.count(sum));
+            default -> due("fault(" + what + ")", x.fault(what), m.fault(what));
+        }
     }
 
     private void askDebts() {
@@ -199,13 +213,15 @@ public final class ModelTest {
         int law = one(3);
         int what = one(2);
         int i = one(4);
-        due("owes(" + v + ", " + to + ")", x.owes(v, to), m.owes(v, to));
-        due("left(" + v + ", " + to + ")", x.left(v, to), m.left(v, to));
-        due("pays(" + law + ", " + v + ", " + to + ")", x.pays(law, v, to), m.pays(law, v, to));
-        due("struck(" + law + ", " + what + ")", x.struck(law, what), m.struck(law, what));
-        due("law()", x.law(), m.law());
-        due("rings(" + what + ")", x.rings(what), m.rings(what));
-        due("ring(" + i + ")", x.ring(i), m.ring(i));
+        switch (random.nextInt(7)) {
+            case 0 -> due("owes(" + v + ", " + to + ")", x.owes(v, to), m.owes(v, to));
+            case 1 -> due("left(" + v + ", " + to + ")", x.left(v, to), m.left(v, to));
+            case 2 -> due("pays(" + law + ", " + v + ", " + to + ")", x.pays(law, v, to), m.pays(law, v, to));
+            case 3 -> due("struck(" + law + ", " + what + ")", x.struck(law, what), m.struck(law, what));
+            case 4 -> due("law()", x.law(), m.law());
+            case 5 -> due("rings(" + what + ")", x.rings(what), m.rings(what));
+            default -> due("ring(" + i + ")", x.ring(i), m.ring(i));
+        }
     }
 
     private void askMarks() {
@@ -269,12 +285,14 @@ public final class ModelTest {
         int seed = random.nextInt(3) == 0 ? any(1_999_999_990, 2_000_000_001) : one(2_000_000_000);
         int what = one(3);
         int n = one(21);
-        due("fair(" + v + ")", x.fair(v), m.fair(v));
-        due("melons(" + v + ")", x.melons(v), m.melons(v));
-        due("share(" + v + ")", x.share(v), m.share(v));
-        due("enough(" + v + ")", x.enough(v), m.enough(v));
-        due("year(" + seed + ", " + what + ")", x.year(seed, what), m.year(seed, what));
-        due("years(" + seed + ", " + n + ")", x.years(seed, n), m.years(seed, n));
+        switch (random.nextInt(6)) {
+            case 0 -> due("fair(" + v + ")", x.fair(v), m.fair(v));
+            case 1 -> due("melons(" + v + ")", x.melons(v), m.melons(v));
+            case 2 -> due("share(" + v + ")", x.share(v), m.share(v));
+            case 3 -> due("enough(" + v + ")", x.enough(v), m.enough(v));
+            case 4 -> due("year(" + seed + ", " + what + ")", x.year(seed, what), m.year(seed, what));
+            default -> due("years(" + seed + ", " + n + ")", x.years(seed, n), m.years(seed, n));
+        }
     }
 
     private void askTakers() {

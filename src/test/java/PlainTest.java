@@ -74,7 +74,12 @@ public final class PlainTest {
         Check.due("a FAULT", Check.plain(x, RIVER + VILLAGE + "flood"), -4);
         Check.due("the PLAIN stays", x.count(5), 4);
         Check.due("TAKERS stay", x.takes(0, -1), 0);
+        Check.due("more of it", x.count(7), 20);
+        Check.due("back of it", x.count(8), 3);
         Check.due("an empty TAPE", x.plain(), 0);
+        for (int what = 0; what < 10; what++) {
+            Check.due("count(" + what + ") of an empty TAPE", x.count(what), 0);
+        }
         Check.due("no LINES", x.count(5), 0);
         Check.due("no VILLAGES", x.count(1), 0);
         Check.due("no PLAIN", x.first(), -2);
@@ -83,6 +88,14 @@ public final class PlainTest {
         Check.due("blanks alone", Check.plain(x, " \n  \n"), 0);
         Check.due("FAULT of blanks", x.fault(0), 0);
         Check.due("still no PLAIN", x.sum(0), -2);
+        // Nothing of an earlier PLAIN is in a later one.
+        Check.plain(x, TWO + CROP + LOAN + "sun 0 is 99; sun 3 is 99; canal 0 costs 9; canal 1 costs 9;");
+        Check.due("the SKY", x.sum(3) > 0 ? 1 : 0, 1);
+        Check.plain(x, TWO);
+        Check.due("CROPS", x.count(2), 0);
+        Check.due("LOANS", x.count(4), 0);
+        Check.due("no sun", x.sum(3), 0);
+        Check.due("no canal", x.village(0, 4) + x.village(1, 4), 0);
     }
 
     private static void fine(String text, int lines) {
@@ -107,6 +120,10 @@ public final class PlainTest {
         fine("river weeks4more0back3;village pond9999water9999face99seep99;", 2);
         fine("river weeks 00000000000000000004 more 000 back 03;", 1);
         wrong("riverweeks 4 more 0 back 3;", 1, 0);
+        wrong("riverz weeks 4 more 0 back 3;", 1, 0);
+        wrong("arriver weeks 4 more 0 back 3;", 1, 0);
+        wrong("riv er weeks 4 more 0 back 3;", 1, 0);
+        wrong("river weeks 4 more 1 0 back 3;", 1, 21);
         wrong("river weeks 4 more 0 back 3;\tsun 0 is 1;", 1, 28);
         wrong("river weeks 4 more 0 back 3;\rsun 0 is 1;", 1, 28);
         wrong("River weeks 4 more 0 back 3;", 1, 0);

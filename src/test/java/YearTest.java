@@ -11,6 +11,7 @@ public final class YearTest {
         bySecond();
         takes();
         wrongNumbers();
+        askedAlone();
         behindBack();
         roundedUp();
         order();
@@ -124,6 +125,30 @@ public final class YearTest {
         FloodLent alone = Check.with("river weeks 4 more 0 back 0;");
         sums(alone, 0, 0, 0, 0, 0, 0, 0, 0, 0);
         Check.due("first() of a river alone", alone.first(), -1);
+    }
+
+    /** Each asks of the YEAR as it is now, whatever was asked ahead of it. */
+    private static void askedAlone() {
+        FloodLent x = Check.with(TEXT);
+        Check.due("first()", x.first(), 2);
+        x.takes(0, 1);
+        Check.due("first() by another taker", x.first(), 3);
+        x.enough(0);
+        Check.due("first() behind enough()", x.first(), 3);
+        x.fair(0);
+        Check.due("loan() behind fair()", x.loan(0, 1), 6);
+        x.enough(1);
+        Check.due("flood() behind enough()", x.flood(0, 2), 8);
+        x.fair(0);
+        Check.due("water() behind fair()", x.water(1, 1), 19);
+        x.best();
+        Check.due("crop() behind best()", x.crop(1, 0), 9);
+        x.safe();
+        Check.due("sum() behind safe()", x.sum(0), 19);
+        x.takes(0, 0);
+        Check.due("melons() by another taker", x.melons(0), 5);
+        x.fair(0);
+        Check.due("owes() behind fair()", x.owes(1, 0), 0);
     }
 
     /** What is TAKEN in the WEEK back is PAID, what is TAKEN behind it is SHORT but never due. */
