@@ -206,13 +206,7 @@ public final class FloodLent {
             return NO_SUCH;
         }
         goThroughYear();
-        switch (what) {
-            case 0: return current.taken[flood];
-            case 1: return current.floodOwed[flood];
-            case 2: return current.floodPaid[flood];
-            case 3: return current.floodOwed[flood] - current.floodPaid[flood];
-            default: return NO_SUCH;
-        }
+        return account(current.taken[flood], current.floodOwed[flood], current.floodPaid[flood], what);
     }
 
     public int loan(int loan, int what) {
@@ -220,11 +214,16 @@ public final class FloodLent {
             return NO_SUCH;
         }
         goThroughYear();
+        return account(current.lent[loan], current.loanOwed[loan], current.loanPaid[loan], what);
+    }
+
+    /** Of water that was TAKEN or LENT, what a call asks. */
+    private static int account(int got, int owed, int paid, int what) {
         switch (what) {
-            case 0: return current.lent[loan];
-            case 1: return current.loanOwed[loan];
-            case 2: return current.loanPaid[loan];
-            case 3: return current.loanOwed[loan] - current.loanPaid[loan];
+            case 0: return got;
+            case 1: return owed;
+            case 2: return paid;
+            case 3: return owed - paid;
             default: return NO_SUCH;
         }
     }

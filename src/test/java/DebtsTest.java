@@ -125,6 +125,20 @@ public final class DebtsTest {
         Check.due("left(1, 1)", x.left(1, 1), -2);
         Check.due("left(3, 1)", x.left(3, 1), -2);
         Check.due("left(1, -1)", x.left(1, -1), -2);
+        // Each asked first of a new object.
+        Check.due("ring(0) first", Check.with(ROUND).ring(0), 7);
+        Check.due("left(2, 1) first", Check.with(ROUND).left(2, 1), 2);
+        Check.due("rings(1) first", Check.with(ROUND).rings(1), 30);
+        Check.due("owes(2, 1) first", Check.with(ROUND).owes(2, 1), 12);
+        Check.due("struck(0, 1) first", Check.with(ROUND).struck(0, 1), 7);
+        // And of another PLAIN in the same object.
+        Check.plain(x, STRUCK);
+        Check.due("left(0, 1) of another", x.left(0, 1), 20);
+        Check.due("left(1, 0) of another", x.left(1, 0), 0);
+        Check.plain(x, ROUND);
+        Check.due("ring(0) as it was", x.ring(0), 7);
+        Check.plain(x, STRUCK);
+        Check.due("ring(0) of another", x.ring(0), -1);
         Check.due("ring(0) of nothing owed", Check.with("river weeks 4 more 0 back 0;").ring(0), -1);
     }
 
