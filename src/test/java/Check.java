@@ -2,17 +2,28 @@ import java.nio.charset.StandardCharsets;
 
 /** Counts answers that are not as they are due, and feeds texts to an object. */
 final class Check {
+    private static final int MOST_TOLD = 50;
     private static int wrong = 0;
     private static int asked = 0;
+    private static int sentences = 0;
+    private static String sentence = "";
 
     private Check() {
+    }
+
+    /** The sentence of the document by which the answers from here on are due. */
+    static void sentence(String words) {
+        sentence = "\"" + words + "\": ";
+        sentences++;
     }
 
     static void due(String call, long got, long want) {
         asked++;
         if (got != want) {
             wrong++;
-            System.out.println(call + " answered " + got + ", due is " + want);
+        }
+        if (got != want && wrong <= MOST_TOLD) {
+            System.out.println(sentence + call + " answered " + got + ", due is " + want);
         }
     }
 
@@ -21,7 +32,8 @@ final class Check {
     }
 
     static void close(String test) {
-        System.out.println(test + ": " + asked + " asked, " + wrong + " wrong");
+        String held = sentences == 0 ? "" : sentences + " sentences, ";
+        System.out.println(test + ": " + held + asked + " asked, " + wrong + " wrong");
         if (wrong != 0 || asked == 0) {
             System.exit(1);
         }
@@ -48,6 +60,23 @@ final class Check {
     static int plain(FloodLent x, String text) {
         feed(x, text);
         return x.plain();
+    }
+
+    /** The text is a PLAIN of so many LINES, without a FAULT. */
+    static void fine(String text, int lines) {
+        FloodLent x = new FloodLent();
+        due("plain() of " + text, plain(x, text), lines);
+        due("fault(0) of " + text, x.fault(0), 0);
+        due("fault(1) of " + text, x.fault(1), -1);
+    }
+
+    /** The text has a FAULT, just where a ^ stands that is taken out of it. */
+    static void faulty(String marked, int fault) {
+        int place = marked.indexOf('^');
+        FloodLent x = new FloodLent();
+        due("plain() of " + marked, plain(x, marked.substring(0, place) + marked.substring(place + 1)), -4);
+        due("fault(0) of " + marked, x.fault(0), fault);
+        due("fault(1) of " + marked, x.fault(1), place);
     }
 
     static FloodLent with(String text) {

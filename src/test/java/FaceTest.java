@@ -54,7 +54,9 @@ public final class FaceTest {
                 open.add(told(m));
             } else {
                 Check.that("private " + m, isHidden(m));
+                Check.that("no name of the face: " + m, !names().contains(m.getName()));
             }
+            Check.that("seven parameters at most: " + m, m.getParameterCount() <= 7);
         }
         Check.that("the document's methods and no others: " + open, open.equals(new TreeSet<>(Arrays.asList(FACE))));
         Constructor<?>[] constructors = FloodLent.class.getDeclaredConstructors();
@@ -66,14 +68,18 @@ public final class FaceTest {
         }
     }
 
-    private static void inside(Class<?> inside) {
-        Check.that("static and not public " + inside, Modifier.isStatic(inside.getModifiers()) && !Modifier.isPublic(inside.getModifiers()));
+    private static Set<String> names() {
         Set<String> names = new TreeSet<>();
         for (String method : FACE) {
             names.add(method.substring(method.indexOf(' ') + 1, method.indexOf('(')));
         }
+        return names;
+    }
+
+    private static void inside(Class<?> inside) {
+        Check.that("static and not public " + inside, Modifier.isStatic(inside.getModifiers()) && !Modifier.isPublic(inside.getModifiers()));
         for (Method m : inside.getDeclaredMethods()) {
-            Check.that("no name of the face: " + m, !names.contains(m.getName()));
+            Check.that("no name of the face: " + m, !names().contains(m.getName()));
             Check.that("seven parameters at most: " + m, m.getParameterCount() <= 7);
         }
         int fields = 0;

@@ -3,7 +3,7 @@ import java.util.Random;
 
 /** Runs of calls on FloodLent and on the Model: each answer must be the same. */
 public final class ModelTest {
-    private static final int RUNS = 2000;
+    private static final int RUNS = 600;
     private static final int CALLS = 120;
 
     private final Random random;

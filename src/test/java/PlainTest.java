@@ -98,13 +98,6 @@ public final class PlainTest {
         Check.due("no canal", x.village(0, 4) + x.village(1, 4), 0);
     }
 
-    private static void fine(String text, int lines) {
-        FloodLent x = new FloodLent();
-        Check.due("plain() of " + text, Check.plain(x, text), lines);
-        Check.due("fault(0) of " + text, x.fault(0), 0);
-        Check.due("fault(1) of " + text, x.fault(1), -1);
-    }
-
     private static void wrong(String text, int fault, int place) {
         FloodLent x = new FloodLent();
         Check.due("plain() of " + text, Check.plain(x, text), -4);
@@ -116,9 +109,9 @@ public final class PlainTest {
     }
 
     private static void blanksAndTokens() {
-        fine(" \nriver\nweeks  4 more 0 back 3 ; \n", 1);
-        fine("river weeks4more0back3;village pond9999water9999face99seep99;", 2);
-        fine("river weeks 00000000000000000004 more 000 back 03;", 1);
+        Check.fine(" \nriver\nweeks  4 more 0 back 3 ; \n", 1);
+        Check.fine("river weeks4more0back3;village pond9999water9999face99seep99;", 2);
+        Check.fine("river weeks 00000000000000000004 more 000 back 03;", 1);
         wrong("riverweeks 4 more 0 back 3;", 1, 0);
         wrong("riverz weeks 4 more 0 back 3;", 1, 0);
         wrong("arriver weeks 4 more 0 back 3;", 1, 0);
@@ -155,7 +148,7 @@ public final class PlainTest {
         for (String bad : new String[] {"weeks 3 ", "weeks 31 ", "weeks 99999999999999999999 "}) {
             wrong("river " + bad + "more 0 back 0;", 2, 12);
         }
-        fine("river weeks 30 more 100 back 29;", 1);
+        Check.fine("river weeks 30 more 100 back 29;", 1);
         wrong("river weeks 30 more 101 back 29;", 2, 20);
         wrong("river weeks 30 more 100 back 30;", 2, 29);
         bound("village pond ", 0, 9999, " water 0 face 0 seep 0;");
@@ -175,8 +168,8 @@ public final class PlainTest {
         bound("loan ", 1, 1, " to 0 of 1 on 0 till 4;");
         bound("loan 1 to ", 0, 0, " of 1 on 0 till 4;");
         bound("loan 0 to 1 of ", 1, 9999, " on 0 till 4;");
-        fine(TWO + "loan 0 to 1 of 1 on 0 till 4;", 4);
-        fine(TWO + "loan 0 to 1 of 1 on 3 till 4;", 4);
+        Check.fine(TWO + "loan 0 to 1 of 1 on 0 till 4;", 4);
+        Check.fine(TWO + "loan 0 to 1 of 1 on 3 till 4;", 4);
         wrong(TWO + "loan 0 to 1 of 1 on 5 till 4;", 2, TWO.length() + 20);
         bound("loan 0 to 1 of 1 on 2 till ", 3, 4, ";");
         bound("canal ", 0, 1, " costs 1;");
@@ -189,8 +182,8 @@ public final class PlainTest {
 
     /** Of a number that stands between two texts, the least and the most are fine, one less and one more are not. */
     private static void bound(String ahead, int least, int most, String behind) {
-        fine(TWO + ahead + least + behind, 4);
-        fine(TWO + ahead + most + behind, 4);
+        Check.fine(TWO + ahead + least + behind, 4);
+        Check.fine(TWO + ahead + most + behind, 4);
         int place = TWO.length() + ahead.length();
         // A loan's first VILLAGE 0 is one, but the other one is then at FAULT.
         if (least > 0 && !ahead.equals("loan ")) {
@@ -200,15 +193,15 @@ public final class PlainTest {
     }
 
     private static void faultsOfMany() {
-        fine(RIVER + VILLAGE.repeat(6), 7);
+        Check.fine(RIVER + VILLAGE.repeat(6), 7);
         wrong(RIVER + VILLAGE.repeat(6) + "village", 3, RIVER.length() + 6 * VILLAGE.length());
-        fine(TWO + CROP.repeat(8), 11);
+        Check.fine(TWO + CROP.repeat(8), 11);
         wrong(TWO + CROP.repeat(8) + CROP, 3, TWO.length() + 8 * CROP.length());
-        fine(TWO + FLOOD.repeat(3), 6);
+        Check.fine(TWO + FLOOD.repeat(3), 6);
         wrong(TWO + FLOOD.repeat(4), 3, TWO.length() + 3 * FLOOD.length());
-        fine(TWO + LOAN.repeat(8), 11);
+        Check.fine(TWO + LOAN.repeat(8), 11);
         wrong(TWO + LOAN.repeat(8) + "loan 9", 3, TWO.length() + 8 * LOAN.length());
-        fine(RIVER + "sun 4 is 9;".repeat(40), 41);
+        Check.fine(RIVER + "sun 4 is 9;".repeat(40), 41);
         // The first by its place counts, not the least.
         wrong(RIVER + "sun 5 is 9; lake", 2, RIVER.length() + 4);
     }
