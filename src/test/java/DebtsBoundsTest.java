@@ -83,6 +83,9 @@ public final class DebtsBoundsTest {
         FloodLent lentOn = Check.with(text + Tell.crop(0, 1, 3, 1, 1) + Tell.loan(0, 1, 10, 0, 2) + Tell.loan(1, 0, 1, 1, 3));
         Check.due("fair(0), it waters it by what it borrows", lentOn.fair(0), 0);
         Check.due("fair(1)", lentOn.fair(1), 0);
+        // With what it borrows it could water a CROP of 15, but for the 10 that it lends.
+        FloodLent borrows = Check.with(text + Tell.crop(0, 15, 50, 0, 0) + Tell.loan(0, 1, 10, 0, 2) + Tell.loan(1, 0, 5, 0, 1));
+        Check.due("fair(0), by lending nothing it still borrows", borrows.fair(0), -1);
         FloodLent other = Check.with(text + Tell.crop(1, 1, 99, 1, 1) + Tell.loan(0, 1, 10, 0, 2));
         Check.due("fair(0), another's CROP", other.fair(0), 0);
         FloodLent watered = Check.with(Tell.river(4, 0, 0) + Tell.village(99, 10) + Tell.village(99, 1) + Tell.crop(0, 1, 2, 1, 1)
@@ -107,6 +110,14 @@ public final class DebtsBoundsTest {
         Check.due("fair(0), nobody takes it", y.fair(0), 11);
         y.takes(0, 1);
         Check.due("fair(0), the debtor takes it", y.fair(0), -1);
+        // A FLOOD of 20 of its own, to be given back with the part more whether it lends or not: it BRINGS 3 by 1 or lends 10.
+        FloodLent own = Check.with(Tell.river(4, 0, 3) + Tell.village(99, 10) + Tell.village(99, 50) + Tell.crop(0, 1, 3, 1, 1)
+            + Tell.loan(0, 1, 10, 0, 2) + Tell.flood(2, 20, 0));
+        own.takes(0, 0);
+        for (int now : new int[] {0, 11, 100}) {
+            own.more(now);
+            Check.due("fair(0), whatever more is now", own.fair(0), 11);
+        }
         // The lender that takes it pays more itself, whether it lends or not.
         FloodLent z = Check.with(text.replace("on 0 till 2", "on 2 till 3"));
         z.takes(0, 0);
@@ -608,6 +619,10 @@ public final class DebtsBoundsTest {
         Check.due("enough(0) by a FLOOD", x.enough(0), 7);
         x.takes(0, 1);
         Check.due("enough(0) by another's FLOOD", x.enough(0), 10);
+        // More is not always better: with 4 the other's CROP drinks all and nothing is paid back, with 3 it does not.
+        FloodLent less = Check.with(Tell.river(4, 0, 3) + Tell.village(20, 0) + Tell.village(20, 5) + Tell.crop(1, 9, 0, 0, 0)
+            + Tell.crop(0, 3, 0, 1, 1) + Tell.loan(0, 1, 4, 0, 1));
+        Check.due("enough(0), the least", less.enough(0), 3);
         FloodLent full = Check.with(Tell.river(4, 0, 0) + Tell.village(9999, 0) + Tell.crop(0, 99, 1, 0, 3).repeat(8));
         Check.due("enough(0) of the most that CROPS drink", full.enough(0), 99 * 4 * 8);
     }
@@ -646,6 +661,12 @@ public final class DebtsBoundsTest {
                 }
                 Check.due("year(" + d[0] + ", 2) by odds as drawn, or 1 more", Check.with(s.toString()).year(d[0], 2), bits);
             }
+        }
+        // A FLOOD that can't come has its draw, too.
+        int[][] odds = {{0, 68, 89, 4}, {0, 69, 88, 2}, {0, 0, 88, 0}, {1, 0, 88, 1}, {1, 0, 89, 5}};
+        for (int[] o : odds) {
+            FloodLent x = Check.with(Tell.river(4, 0, 0) + Tell.flood(0, 1, o[0]) + Tell.flood(0, 1, o[1]) + Tell.flood(0, 1, o[2]));
+            Check.due("year(0, 2) by odds of " + o[0] + ", " + o[1] + ", " + o[2], x.year(0, 2), o[3]);
         }
         FloodLent never = Check.with(Tell.river(4, 0, 0) + Tell.flood(0, 1, 0).repeat(3));
         FloodLent ever = Check.with(Tell.river(4, 0, 0) + Tell.flood(0, 1, 100).repeat(3));

@@ -415,6 +415,13 @@ public final class YearBoundsTest {
         Check.due("the SKY", x.sum(3), 5);
         Check.due("the SEA", x.sum(4), 1);
         waters(x, 0, 0, 0, 0, 0);
+        // A CROP drinks what the SKY would have, if there is just as much; 1 more and the SKY has it.
+        for (int water = 4; water <= 6; water++) {
+            FloodLent z = Check.with(Tell.river(4, 0, 0) + Tell.village(50, water, 10, 3) + Tell.sun(0, 50) + Tell.crop(0, 5, 1, 0, 0));
+            crop(z, 0, water < 5 ? 0 : 1, water < 5 ? 1 : 0, water < 5 ? 0 : -1);
+            Check.due("the SKY with " + water, z.sum(3), water < 5 ? 4 : water - 5);
+            Check.due("the SEA with " + water, z.sum(4), 0);
+        }
         // What the SKY takes makes ROOM for what seeps.
         FloodLent y = Check.with(Tell.river(4, 0, 0) + Tell.village(50, 6, 0, 6) + Tell.village(10, 10, 10, 0) + Tell.sun(0, 40));
         waters(y, 1, 10, 10, 10, 10);
