@@ -175,11 +175,11 @@ public final class FloodLent {
     }
 
     private boolean hasVillage(int village) {
-        return village >= 0 && village < now.villages.n;
+        return now.villages.has(village);
     }
 
     private boolean hasFlood(int flood) {
-        return flood >= 0 && flood < now.floods.n;
+        return now.floods.has(flood);
     }
 
     private boolean hasWeek(int week) {
@@ -210,7 +210,7 @@ public final class FloodLent {
     }
 
     public int loan(int loan, int what) {
-        if (loan < 0 || loan >= now.loans.n) {
+        if (!now.loans.has(loan)) {
             return NO_SUCH;
         }
         goThroughYear();
@@ -229,7 +229,7 @@ public final class FloodLent {
     }
 
     public int crop(int crop, int what) {
-        if (crop < 0 || crop >= now.crops.n) {
+        if (!now.crops.has(crop)) {
             return NO_SUCH;
         }
         goThroughYear();
@@ -429,10 +429,10 @@ public final class FloodLent {
 
     /** 0 if a SLOT has MARKS; else what is answered. What else a call names is asked ahead of the row. */
     private int marksWrong(int slot, boolean restIsThere) {
-        if (!hasPlain() || slot < 0 || slot >= SLOTS || !restIsThere) {
+        if (!hasPlain() || !isSlot(slot) || !restIsThere) {
             return NO_SUCH;
         }
-        Slot row = slots[slot];
+        Slot row = slotAt(slot);
         if (row == null) {
             return NOTHING;
         }
@@ -456,7 +456,7 @@ public final class FloodLent {
 
     /** The one MARK that is not so in the YEAR gone through; NONE, or SEVERAL. */
     private int missed(int slot) {
-        Slot row = slots[slot];
+        Slot row = slotAt(slot);
         if (row == null) {
             return NONE;
         }
@@ -494,7 +494,7 @@ public final class FloodLent {
         current.part = part;
         current.idle = idle;
         current.run();
-        int all = current.water[village];
+        int all = current.waterOf(village);
         for (int i = 0; i < now.crops.n; i++) {
             if (now.crops.at(i, GROWER) == village) {
                 all += current.brought[i];
@@ -583,10 +583,10 @@ public final class FloodLent {
 
     private boolean neverDry(int village, int level) {
         current.begin();
-        current.water[village] = level;
+        current.add(village, level - current.waterOf(village));
         for (int week = 0; week < now.weeks; week++) {
             current.pass(week);
-            if (current.dryOf[village] > 0) {
+            if (current.wasDry(village)) {
                 return false;
             }
         }
@@ -610,7 +610,7 @@ public final class FloodLent {
             return NO_SUCH;
         }
         reckonDebts();
-        return debts.owed[Debts.pair(village, to)];
+        return debts.owed.at(village, to);
     }
 
     public int rings(int what) {
@@ -628,7 +628,7 @@ public final class FloodLent {
         }
         reckonDebts();
         debts.clearRings();
-        return i >= 0 && i < debts.ringCount ? debts.ringBits[i] : NONE;
+        return debts.bitsOf(i);
     }
 
     public int left(int village, int to) {
@@ -637,7 +637,7 @@ public final class FloodLent {
         }
         reckonDebts();
         debts.clearRings();
-        return debts.rest[Debts.pair(village, to)];
+        return debts.rest.at(village, to);
     }
 
     public int struck(int law, int what) {
@@ -646,7 +646,7 @@ public final class FloodLent {
         }
         reckonDebts();
         debts.strike(law);
-        return what == 0 ? together(debts.paid) : debts.ruined();
+        return what == 0 ? debts.paid.inAll() : debts.ruined();
     }
 
     public int pays(int law, int village, int to) {
@@ -655,7 +655,7 @@ public final class FloodLent {
         }
         reckonDebts();
         debts.strike(law);
-        return debts.paid[Debts.pair(village, to)];
+        return debts.paid.at(village, to);
     }
 
     public int law() {
@@ -757,6 +757,11 @@ public final class FloodLent {
         return slot >= 0 && slot < SLOTS;
     }
 
+    /** A SLOT's row; null if it has nothing. */
+    private Slot slotAt(int slot) {
+        return isSlot(slot) ? slots[slot] : null;
+    }
+
     public int row(int slot, int width, int n) {
         if (!isSlot(slot) || width < 0 || width > 3 || n > Slot.MOST) {
             return NO_SUCH;
@@ -775,11 +780,11 @@ public final class FloodLent {
         if (!isSlot(slot)) {
             return NO_SUCH;
         }
-        Slot row = slots[slot];
+        Slot row = slotAt(slot);
         if (row == null) {
             return NOTHING;
         }
-        if (i < 0 || i >= row.n) {
+        if (!row.has(i)) {
             return BEYOND;
         }
         row.put(i, v);
@@ -790,15 +795,15 @@ public final class FloodLent {
         if (!isSlot(slot) || !isSlot(to)) {
             return NO_SUCH;
         }
-        Slot source = slots[slot];
-        Slot target = slots[to];
+        Slot source = slotAt(slot);
+        Slot target = slotAt(to);
         if (source == null || target == null) {
             return NOTHING;
         }
         if (source.width != target.width) {
             return UNLIKE;
         }
-        if (!source.has(i, n) || !target.has(k, n)) {
+        if (!source.hasAll(i, n) || !target.hasAll(k, n)) {
             return BEYOND;
         }
         // arraycopy reads all ahead of writing, also within one row.
@@ -818,20 +823,24 @@ public final class FloodLent {
 
         void begin(int newWidth, int count) {
             width = newWidth;
-            n = count;
+            n = Math.max(0, Math.min(count, MOST));
             Arrays.fill(numbers, 0L);
         }
 
-        boolean has(int from, int count) {
+        boolean has(int i) {
+            return i >= 0 && i < n;
+        }
+
+        boolean hasAll(int from, int count) {
             return from >= 0 && count >= 0 && count <= n && from <= n - count;
         }
 
         long number(int i) {
-            return i >= 0 && i < n ? numbers[i] : 0;
+            return has(i) ? numbers[i] : 0;
         }
 
         void put(int i, long v) {
-            if (i >= 0 && i < n) {
+            if (has(i)) {
                 numbers[i] = cut(v);
             }
         }
@@ -1014,16 +1023,14 @@ public final class FloodLent {
             }
             String form = formOf(line);
             int k = 0;
-            for (int from = wordEnd(form, 0) + 1; from < form.length(); from = wordEnd(form, from) + 1) {
-                tokens.step();
-                if (form.charAt(from) != 'N') {
-                    if (!tokens.isWord(form, from, wordEnd(form, from))) {
-                        return fails(MISPLACED);
+            for (int from = 1; from < form.length(); from++) {
+                if (form.charAt(from - 1) == ' ') {
+                    tokens.step();
+                    boolean number = form.charAt(from) == 'N';
+                    if (!(number ? readsNumber(draft, line, k) : readsWord(form, from))) {
+                        return false;
                     }
-                } else if (!readsNumber(draft, line, k)) {
-                    return false;
-                } else {
-                    k++;
+                    k += number ? 1 : 0;
                 }
             }
             tokens.step();
@@ -1034,8 +1041,12 @@ public final class FloodLent {
             return true;
         }
 
+        private boolean readsWord(String form, int from) {
+            return tokens.isWord(form, from, wordEnd(form, from)) || fails(MISPLACED);
+        }
+
         private boolean readsNumber(Plain draft, int line, int k) {
-            if (tokens.kind != Tokens.NUMBER || k >= MOST_NUMBERS) {
+            if (tokens.kind != Tokens.NUMBER || k < 0 || k >= MOST_NUMBERS) {
                 return fails(MISPLACED);
             }
             int value = tokens.value;
@@ -1152,17 +1163,23 @@ public final class FloodLent {
 
     /** Things of one kind, as many columns of numbers each. */
     private static final class Records {
+        final int most;
         final int columns;
         final int[] cells;
         int n;
 
-        Records(int most, int width) {
+        Records(int length, int width) {
+            most = length;
             columns = width;
-            cells = new int[most * width];
+            cells = new int[length * width];
         }
 
         boolean isFull() {
-            return (n + 1) * columns > cells.length;
+            return n >= most;
+        }
+
+        boolean has(int i) {
+            return i >= 0 && i < n;
         }
 
         void add(int[] numbers) {
@@ -1175,10 +1192,7 @@ public final class FloodLent {
         }
 
         int at(int i, int column) {
-            if (i < 0 || i >= n || column < 0 || column >= columns) {
-                return 0;
-            }
-            return cells[i * columns + column];
+            return i >= 0 && i < n && column >= 0 && column < columns ? cells[i * columns + column] : 0;
         }
 
         void put(int i, int column, int value) {
@@ -1189,7 +1203,7 @@ public final class FloodLent {
 
         /** Takes over records of the same size. */
         void copy(Records other) {
-            n = other.n;
+            n = Math.min(most, other.n);
             System.arraycopy(other.cells, 0, cells, 0, Math.min(cells.length, other.cells.length));
         }
     }
@@ -1235,6 +1249,10 @@ public final class FloodLent {
                 sun[week] = strength;
             }
         }
+
+        int sunIn(int week) {
+            return week >= 0 && week < MOST_WEEKS ? sun[week] : 0;
+        }
     }
 
     /** A YEAR: begun, perhaps changed, and gone through; what comes of it stays until the next begins. */
@@ -1255,7 +1273,7 @@ public final class FloodLent {
         final int[] brought = new int[MOST_CROPS];
         final int[] dry = new int[MOST_CROPS];
         final int[] firstDry = new int[MOST_CROPS];
-        final int[] dryOf = new int[MOST_VILLAGES];
+        final boolean[] dryOf = new boolean[MOST_VILLAGES];
         int sky;
         int sea;
         int drunk;
@@ -1274,6 +1292,7 @@ public final class FloodLent {
             }
             for (int i = 0; i < MOST_VILLAGES; i++) {
                 water[i] = plain.villages.at(i, WATER);
+                dryOf[i] = false;
             }
             Arrays.fill(taken, 0);
             Arrays.fill(floodOwed, 0);
@@ -1284,7 +1303,6 @@ public final class FloodLent {
             Arrays.fill(brought, 0);
             Arrays.fill(dry, 0);
             Arrays.fill(firstDry, NONE);
-            Arrays.fill(dryOf, 0);
             sky = 0;
             sea = 0;
             drunk = 0;
@@ -1317,12 +1335,27 @@ public final class FloodLent {
             return behind[village * MOST_WEEKS + week];
         }
 
+        int waterOf(int village) {
+            return village >= 0 && village < MOST_VILLAGES ? water[village] : 0;
+        }
+
+        void add(int village, int n) {
+            if (village >= 0 && village < MOST_VILLAGES) {
+                water[village] += n;
+            }
+        }
+
+        /** Whether a CROP of a VILLAGE was DRY so far. */
+        boolean wasDry(int village) {
+            return village >= 0 && village < MOST_VILLAGES && dryOf[village];
+        }
+
         int shortInAll() {
             return together(floodOwed) - together(floodPaid) + together(loanOwed) - together(loanPaid);
         }
 
         private int roomOf(int village) {
-            return plain.villages.at(village, POND) - water[village];
+            return plain.villages.at(village, POND) - waterOf(village);
         }
 
         private int withMore(int n) {
@@ -1341,7 +1374,7 @@ public final class FloodLent {
                 if (village != NONE && plain.floods.at(i, COMES) == week) {
                     taken[i] = Math.min(plain.floods.at(i, CARRIES), roomOf(village));
                     floodOwed[i] = withMore(taken[i]);
-                    water[village] += taken[i];
+                    add(village, taken[i]);
                 }
             }
         }
@@ -1351,11 +1384,11 @@ public final class FloodLent {
                 int lender = plain.loans.at(i, LENDER);
                 if (plain.loans.at(i, ON) == week && lender != idle) {
                     int debtor = plain.loans.at(i, DEBTOR);
-                    int most = Math.min(plain.loans.at(i, AMOUNT), water[lender]);
+                    int most = Math.min(plain.loans.at(i, AMOUNT), waterOf(lender));
                     lent[i] = Math.min(most, roomOf(debtor));
                     loanOwed[i] = withMore(lent[i]);
-                    water[lender] -= lent[i];
-                    water[debtor] += lent[i];
+                    add(lender, -lent[i]);
+                    add(debtor, lent[i]);
                 }
             }
         }
@@ -1365,10 +1398,10 @@ public final class FloodLent {
                 if (plain.loans.at(i, TILL) == week) {
                     int lender = plain.loans.at(i, LENDER);
                     int debtor = plain.loans.at(i, DEBTOR);
-                    int most = Math.min(loanOwed[i], water[debtor]);
+                    int most = Math.min(loanOwed[i], waterOf(debtor));
                     loanPaid[i] = Math.min(most, roomOf(lender));
-                    water[debtor] -= loanPaid[i];
-                    water[lender] += loanPaid[i];
+                    add(debtor, -loanPaid[i]);
+                    add(lender, loanPaid[i]);
                     if (loanPaid[i] < loanOwed[i]) {
                         noteTrouble(week);
                     }
@@ -1380,8 +1413,8 @@ public final class FloodLent {
             for (int i = 0; i < plain.floods.n; i++) {
                 int village = taker[i];
                 if (village != NONE) {
-                    floodPaid[i] = Math.min(floodOwed[i], water[village]);
-                    water[village] -= floodPaid[i];
+                    floodPaid[i] = Math.min(floodOwed[i], waterOf(village));
+                    add(village, -floodPaid[i]);
                     if (floodPaid[i] < floodOwed[i]) {
                         noteTrouble(week);
                     }
@@ -1394,8 +1427,8 @@ public final class FloodLent {
                 if (plain.crops.at(i, FROM) <= week && week <= plain.crops.at(i, TO)) {
                     int village = plain.crops.at(i, GROWER);
                     int drinks = plain.crops.at(i, DRINKS);
-                    if (water[village] >= drinks) {
-                        water[village] -= drinks;
+                    if (waterOf(village) >= drinks) {
+                        add(village, -drinks);
                         drunk += drinks;
                         brought[i] += plain.crops.at(i, BRINGS);
                     } else {
@@ -1406,16 +1439,18 @@ public final class FloodLent {
         }
 
         private void staysDry(int crop, int village, int week) {
-            if (dry[crop] == 0) {
-                firstDry[crop] = week;
+            if (crop >= 0 && crop < MOST_CROPS) {
+                firstDry[crop] = dry[crop] == 0 ? week : firstDry[crop];
+                dry[crop]++;
             }
-            dry[crop]++;
-            dryOf[village]++;
+            if (village >= 0 && village < MOST_VILLAGES) {
+                dryOf[village] = true;
+            }
             noteTrouble(week);
         }
 
         private void drinkSky(int week) {
-            int sun = plain.sun[week];
+            int sun = plain.sunIn(week);
             for (int i = 0; i < plain.villages.n; i++) {
                 int drink = Math.min(water[i], plain.villages.at(i, FACE) * sun / HUNDRED);
                 water[i] -= drink;
@@ -1437,8 +1472,10 @@ public final class FloodLent {
         }
 
         private void noteWater(int week) {
-            for (int i = 0; i < plain.villages.n; i++) {
-                behind[i * MOST_WEEKS + week] = water[i];
+            if (week >= 0 && week < MOST_WEEKS) {
+                for (int i = 0; i < plain.villages.n; i++) {
+                    behind[i * MOST_WEEKS + week] = water[i];
+                }
             }
         }
     }
@@ -1479,7 +1516,7 @@ public final class FloodLent {
 
         /** How many digits there are: nobody and each VILLAGE. */
         private int choices() {
-            return plain.villages.n + 1;
+            return Math.max(1, plain.villages.n + 1);
         }
 
         int takerIn(int code, int flood) {
@@ -1622,17 +1659,51 @@ public final class FloodLent {
         }
     }
 
+    /** A number for each VILLAGE and each other one. */
+    private static final class Pairs {
+        final int[] cells = new int[MOST_VILLAGES * MOST_VILLAGES];
+
+        private static boolean has(int village, int to) {
+            return village >= 0 && village < MOST_VILLAGES && to >= 0 && to < MOST_VILLAGES;
+        }
+
+        int at(int village, int to) {
+            return has(village, to) ? cells[village * MOST_VILLAGES + to] : 0;
+        }
+
+        void put(int village, int to, int value) {
+            if (has(village, to)) {
+                cells[village * MOST_VILLAGES + to] = value;
+            }
+        }
+
+        void add(int village, int to, int n) {
+            put(village, to, at(village, to) + n);
+        }
+
+        int inAll() {
+            return together(cells);
+        }
+
+        void clear() {
+            Arrays.fill(cells, 0);
+        }
+
+        void copy(Pairs other) {
+            System.arraycopy(other.cells, 0, cells, 0, cells.length);
+        }
+    }
+
     /** DEBTS at the end of a YEAR, what is left of them without RINGS, and what is paid by a LAW. */
     private static final class Debts {
-        static final int PAIRS = MOST_VILLAGES * MOST_VILLAGES;
         static final int LEAST_FIRST = 1;
         static final int PARTS = 2;
 
         final Plain plain;
         final Year year;
-        final int[] owed = new int[PAIRS];
-        final int[] rest = new int[PAIRS];
-        final int[] paid = new int[PAIRS];
+        final Pairs owed = new Pairs();
+        final Pairs rest = new Pairs();
+        final Pairs paid = new Pairs();
         final int[] round = new int[MOST_VILLAGES];
         // Each RING brings a DEBT to 0, and there are no more DEBTS than LOANS.
         final int[] ringBits = new int[MOST_LOANS];
@@ -1644,20 +1715,15 @@ public final class FloodLent {
             year = shared;
         }
 
-        static int pair(int village, int to) {
-            return village * MOST_VILLAGES + to;
-        }
-
         void reckon() {
-            Arrays.fill(owed, 0);
+            owed.clear();
             for (int i = 0; i < plain.loans.n; i++) {
-                int pair = pair(plain.loans.at(i, DEBTOR), plain.loans.at(i, LENDER));
-                owed[pair] += year.loanOwed[i] - year.loanPaid[i];
+                owed.add(plain.loans.at(i, DEBTOR), plain.loans.at(i, LENDER), year.loanOwed[i] - year.loanPaid[i]);
             }
         }
 
         void clearRings() {
-            System.arraycopy(owed, 0, rest, 0, PAIRS);
+            rest.copy(owed);
             ringCount = 0;
             cleared = 0;
             for (int i = 0; i < MOST_LOANS; i++) {
@@ -1665,8 +1731,14 @@ public final class FloodLent {
                 if (length == 0) {
                     return;
                 }
-                clearRound(length);
+                ringBits[i] = clearRound(length);
+                ringCount = i + 1;
             }
+        }
+
+        /** The VILLAGES of a RING that was CLEARED; NONE if there is none such. */
+        int bitsOf(int ring) {
+            return ring >= 0 && ring < Math.min(ringCount, MOST_LOANS) ? ringBits[ring] : NONE;
         }
 
         /** Puts the next RING into round: how many VILLAGES it has, 0 if there is none. */
@@ -1684,13 +1756,16 @@ public final class FloodLent {
         }
 
         /** Whether the row, so far of depth VILLAGES, can be made a RING of a length; the least row is tried first. */
-        private static boolean closes(int[] rest, int[] round, int depth, int length, int villages) {
+        private static boolean closes(Pairs rest, int[] round, int depth, int length, int villages) {
+            if (depth < 1 || depth > round.length) {
+                return false;
+            }
             int last = round[depth - 1];
             if (depth >= length) {
-                return rest[pair(last, round[0])] > 0;
+                return rest.at(last, round[0]) > 0;
             }
-            for (int next = round[0] + 1; next < villages; next++) {
-                if (rest[pair(last, next)] > 0 && !holds(round, depth, next)) {
+            for (int next = round[0] + 1; next < villages && depth < round.length; next++) {
+                if (rest.at(last, next) > 0 && !holds(round, depth, next)) {
                     round[depth] = next;
                     if (closes(rest, round, depth + 1, length, villages)) {
                         return true;
@@ -1701,7 +1776,7 @@ public final class FloodLent {
         }
 
         private static boolean holds(int[] round, int depth, int village) {
-            for (int i = 0; i < depth; i++) {
+            for (int i = 0; i < depth && i < round.length; i++) {
                 if (round[i] == village) {
                     return true;
                 }
@@ -1709,24 +1784,28 @@ public final class FloodLent {
             return false;
         }
 
-        private void clearRound(int length) {
-            int least = rest[pair(round[length - 1], round[0])];
+        /** Makes the DEBTS of the RING in round less: its VILLAGES, as bits. */
+        private int clearRound(int length) {
+            int least = rest.at(inRound(length - 1), inRound(0));
             for (int i = 1; i < length; i++) {
-                least = Math.min(least, rest[pair(round[i - 1], round[i])]);
+                least = Math.min(least, rest.at(inRound(i - 1), inRound(i)));
             }
             int bits = 0;
             for (int i = 0; i < length; i++) {
-                int next = i + 1 < length ? round[i + 1] : round[0];
-                rest[pair(round[i], next)] -= least;
-                bits |= 1 << round[i];
+                int next = i + 1 < length ? i + 1 : 0;
+                rest.add(inRound(i), inRound(next), -least);
+                bits |= 1 << inRound(i);
             }
             cleared += least * length;
-            ringBits[ringCount] = bits;
-            ringCount++;
+            return bits;
+        }
+
+        private int inRound(int i) {
+            return i >= 0 && i < MOST_VILLAGES ? round[i] : 0;
         }
 
         void strike(int law) {
-            Arrays.fill(paid, 0);
+            paid.clear();
             for (int village = 0; village < plain.villages.n; village++) {
                 if (law == PARTS) {
                     payParts(village);
@@ -1739,25 +1818,25 @@ public final class FloodLent {
         private void payParts(int village) {
             long all = 0;
             for (int to = 0; to < plain.villages.n; to++) {
-                all += owed[pair(village, to)];
+                all += owed.at(village, to);
             }
-            long water = year.water[village];
+            long water = year.waterOf(village);
             for (int to = 0; to < plain.villages.n; to++) {
-                int debt = owed[pair(village, to)];
-                paid[pair(village, to)] = water < all ? (int) (debt * water / Math.max(1, all)) : debt;
+                int debt = owed.at(village, to);
+                paid.put(village, to, water < all ? (int) (debt * water / Math.max(1, all)) : debt);
             }
         }
 
         private void payInTurn(int village, int law) {
-            int water = year.water[village];
+            int water = year.waterOf(village);
             int done = 0;
             for (int i = 0; i < plain.villages.n; i++) {
                 int to = nextToPay(village, law, done);
                 if (to == NONE) {
                     return;
                 }
-                int pays = Math.min(water, owed[pair(village, to)]);
-                paid[pair(village, to)] = pays;
+                int pays = Math.min(water, owed.at(village, to));
+                paid.put(village, to, pays);
                 water -= pays;
                 done |= 1 << to;
             }
@@ -1767,9 +1846,9 @@ public final class FloodLent {
         private int nextToPay(int village, int law, int done) {
             int next = NONE;
             for (int to = 0; to < plain.villages.n; to++) {
-                int debt = owed[pair(village, to)];
+                int debt = owed.at(village, to);
                 if (debt > 0 && (done >> to & 1) == 0) {
-                    if (next == NONE || law == LEAST_FIRST && debt < owed[pair(village, next)]) {
+                    if (next == NONE || law == LEAST_FIRST && debt < owed.at(village, next)) {
                         next = to;
                     }
                 }
@@ -1784,8 +1863,8 @@ public final class FloodLent {
                 int due = 0;
                 int got = 0;
                 for (int from = 0; from < plain.villages.n; from++) {
-                    due += owed[pair(from, village)];
-                    got += paid[pair(from, village)];
+                    due += owed.at(from, village);
+                    got += paid.at(from, village);
                 }
                 if (2 * got < due) {
                     bits |= 1 << village;
