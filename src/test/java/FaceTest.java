@@ -105,7 +105,19 @@ public final class FaceTest {
         while (imports.find()) {
             Check.that("import " + imports.group(1), imports.group(1).equals("java.util.Arrays"));
         }
+        Check.that("no method of more than sixty lines", longest(source) <= 60);
         Check.that("signs 1 to 127 alone", source.chars().allMatch(c -> c > 0 && c < 128));
         Check.that("no text joined by +", !Pattern.compile("\"\"\\s*\\+|\\+\\s*\"\"").matcher(code).find());
+    }
+
+    /** How many lines the longest method has: from a line that opens one to the brace that stands below its first sign. */
+    private static int longest(String source) {
+        Matcher m = Pattern.compile("(?m)^( {4}| {8})(?! )[^\\n;=]*\\) \\{\\n(?s:.*?)^\\1\\}").matcher(source);
+        int longest = 0;
+        while (m.find()) {
+            longest = Math.max(longest, (int) m.group().lines().count());
+        }
+        Check.that("methods are found", longest > 5);
+        return longest;
     }
 }
